@@ -1,0 +1,16 @@
+/** Runs every test of the project; its exit code is 1 if one fails. */
+public final class AllTests {
+    private AllTests() {
+    }
+
+    public static void main(String[] args) throws Exception {
+        PromiseTest.run();
+        TextTest.run();
+        OracleTest.run();
+        LanguageTest.run(args.length > 0 ? args[0] : "src/main/java/PebbleInShoe.java");
+        System.out.println(Check.passed + " passed, " + Check.failed + " failed");
+        if (Check.failed != 0) {
+            System.exit(1);
+        }
+    }
+}
