@@ -294,7 +294,9 @@ public final class PebbleInShoe {
         for (int v = 0; v <= last; v++) {
             think();
             row[p] = v;
-            bits |= agrees(s, j) << v;
+            if (firstOtherwise(s, j) == NONE) {
+                bits |= 1 << v;
+            }
         }
         return bits;
     }
@@ -308,7 +310,9 @@ public final class PebbleInShoe {
         for (int v = 0; v <= THICKEST; v++) {
             think();
             thought.soles[j] = v;
-            bits |= agrees(s, j) << v;
+            if (firstOtherwise(s, j) == NONE) {
+                bits |= 1 << v;
+            }
         }
         return bits;
     }
@@ -330,7 +334,7 @@ public final class PebbleInShoe {
         for (int v = MOST_SIZE; v >= 0; v--) {
             think();
             row[p] = v;
-            if (agrees(s, j) == 1) {
+            if (firstOtherwise(s, j) == NONE) {
                 found++;
                 least = v;
             }
@@ -346,7 +350,9 @@ public final class PebbleInShoe {
         int bits = 0;
         for (int j = 0; j < now.judges; j++) {
             think();
-            bits |= agrees(s, j) << j;
+            if (firstOtherwise(s, j) == NONE) {
+                bits |= 1 << j;
+            }
         }
         return bits;
     }
@@ -360,7 +366,9 @@ public final class PebbleInShoe {
         for (int t = 0; t < texts.number; t++) {
             think();
             thought.law = t;
-            bits |= agrees(s, j) << t;
+            if (firstOtherwise(s, j) == NONE) {
+                bits |= 1 << t;
+            }
         }
         return bits;
     }
@@ -661,10 +669,6 @@ public final class PebbleInShoe {
             }
         }
         return NONE;
-    }
-
-    private int agrees(int s, int j) {
-        return firstOtherwise(s, j) == NONE ? 1 : 0;
     }
 
     /** JUDGES, PEBBLES and THE LAW as they are, or as they are thought to be, or as AN IMAGE keeps them. */

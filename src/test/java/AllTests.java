@@ -6,6 +6,7 @@ public final class AllTests {
     public static void main(String[] args) throws Exception {
         PromiseTest.run();
         TextTest.run();
+        ExtremesTest.run();
         OracleTest.run();
         LanguageTest.run(args.length > 0 ? args[0] : "src/main/java/PebbleInShoe.java");
         System.out.println(Check.passed + " passed, " + Check.failed + " failed");

@@ -120,11 +120,11 @@ final class LanguageTest {
         }
     }
 
-    /** By names alone, the recursion of the Reader left out: no chain of calls is above eight. */
+    /** By names alone, the recursion of the Reader left out: one below the rule's eight, the library's calls go on. */
     private static void callsAreFewDeep(String code) {
         List<String[]> all = methods(code);
         for (String[] m : all) {
-            Check.holds(m[0] + " calls at most eight deep", depth(m[0], all, 0) <= 8);
+            Check.holds(m[0] + " calls few deep", depth(m[0], all, 0) <= 7);
         }
     }
 

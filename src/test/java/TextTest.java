@@ -5,6 +5,7 @@ final class TextTest {
 
     static void run() {
         faults();
+        fullTapes();
         openOnes();
         values();
         parts();
@@ -29,7 +30,13 @@ final class TextTest {
     private static void faults() {
         fault("", 0);
         fault("  \n", 3);
+        fault("feel", 0);
         fault("feels", 5);
+        fault("feels size - round ; wears 1 ; bars 3", 37);
+        fault("feels xize; wears 1; bars 1;", 6);
+        fault("feels 1; wears 1; bars 1 xr 1;", 25);
+        fault("feels 1; wears 1; bars 1; $", 26);
+        fault("feels 1; wears 1; bars 1; 12345", 26);
         fault("feels 1", 7);
         fault("feels 1 ", 8);
         fault("feels 1; wears 1; bars 1", 24);
@@ -77,6 +84,17 @@ final class TextTest {
         stands("\n feels\n1 ;wears(1);bars-1;\n ");
         stands("feels 9999; wears 0000; bars 0;");
         stands("feels size+round-soles*miles;wears more<judge;bars not size=1 and 2 or 3;");
+    }
+
+    private static void fullTapes() {
+        fault("a".repeat(160), 0);
+        fault("7".repeat(160), 0);
+        fault(" ".repeat(160), 160);
+        fault("feels " + "(".repeat(154), 11);
+        fault("feels 1" + "+1".repeat(76) + "+", 160);
+        fault("feels 1;wears 1;bars 1" + " ".repeat(138), 160);
+        stands("feels 1;wears 1;bars 1;" + " ".repeat(137));
+        stands("feels 1;wears 1;bars  " + "1+".repeat(68) + "1;");
     }
 
     private static String feels(String e) {
@@ -175,6 +193,10 @@ final class TextTest {
         value("9999*9999*9999+0*1", 9999 * 9999 * 9999 < 0 ? 0 : 9999);
         value("-(256*256*256*128)<0", 1);
         value("1+(2+(3+(4+(5+6))))", 21);
+        // as many operands wait as can: five in each of six brackets
+        String waiting = "0or1and0<0+1*";
+        value((waiting + "(").repeat(5) + waiting + "7" + ")".repeat(5), 1);
+        value((waiting + "(").repeat(5) + waiting + "0" + ")".repeat(5), 0);
         value("0 or 0 and 0<0+0*(0 or 1 and 1<1+1*(0 or 1 and 1<1+1*(0 or 1 and 1<1+1*(1 or 1 and 1<1+1*1))))", 0);
         value("1 or 1 and 0<0+1*(1 or 1 and 0<0+1*(1 or 1 and 0<0+1*(1 or 1 and 0<0+1*(1 or 1 and 0<0+1*(1)))))", 1);
         value("0 or 1 and 0<0+1*(0 or 1 and 0<0+1*(0 or 1 and 0<0+1*(0 or 1 and 0<0+1*(0 or 1 and 0<0+1*(5)))))", 1);
