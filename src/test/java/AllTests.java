@@ -6,6 +6,14 @@ public final class AllTests {
     public static void main(String[] args) throws Exception {
         PromiseTest.run();
         TextTest.run();
+        TermsTest.run();
+        MilesTest.run();
+        TextEdgesTest.run();
+        EdgesTest.run();
+        FindingEdgesTest.run();
+        CircuitEdgesTest.run();
+        HostEdgesTest.run();
+        NothingChangesTest.run();
         ExtremesTest.run();
         OracleTest.run();
         LanguageTest.run(args.length > 0 ? args[0] : "src/main/java/PebbleInShoe.java");

@@ -38,14 +38,6 @@ final class PromiseTest {
         Check.due(what, got, want);
     }
 
-    /** A JUDGE with such SOLES, a PEBBLE of such a KIND. */
-    private static PebbleInShoe pair(int soles, int kindMore, int sizeRound) {
-        PebbleInShoe x = new PebbleInShoe();
-        x.judge(soles);
-        x.pebble(kindMore, sizeRound);
-        return x;
-    }
-
     private static void newObject() {
         PebbleInShoe x = new PebbleInShoe();
         int[] counts = {0, 0, 1, 0, 0};
@@ -177,17 +169,17 @@ final class PromiseTest {
     private static void sandByKind() {
         int[] lastSand = {0, 0, 3, 0, 3, 4};
         for (int kind = 0; kind <= 5; kind++) {
-            PebbleInShoe x = pair(0, 10 * kind + 3, 9900);
+            PebbleInShoe x = Made.pair(0, 10 * kind + 3, 9900);
             for (int size = 0; size < 7; size++) {
                 x.put(0, 0, size);
                 due("KIND " + kind + " of SIZE " + size + " IS SAND", x.told(0, 4), size <= lastSand[kind] ? 1 : 0);
             }
         }
-        due("a SHELL with MORE 0", pair(0, 20, 100).told(0, 4), 0);
+        due("a SHELL with MORE 0", Made.pair(0, 20, 100).told(0, 4), 0);
     }
 
     private static void hurtDue(int kindMore, int says, int soles, int want) {
-        PebbleInShoe x = pair(soles, kindMore, 9900);
+        PebbleInShoe x = Made.pair(soles, kindMore, 9900);
         Tape.law(x, "feels " + says + "; wears 0; bars 1;");
         due("KIND, MORE " + kindMore + " HURTS by " + says + ", SOLES " + soles, x.hear(0, 0, 1, 0), want);
     }
@@ -215,7 +207,7 @@ final class PromiseTest {
     }
 
     private static void wearDue(int kindMore, int says, int want) {
-        PebbleInShoe x = pair(0, kindMore, 9900);
+        PebbleInShoe x = Made.pair(0, kindMore, 9900);
         Tape.law(x, "feels 0; wears " + says + "; bars 1;");
         due("KIND, MORE " + kindMore + " WEARS by " + says, 99 - x.hear(0, 0, 1, 1), want);
     }
@@ -232,7 +224,7 @@ final class PromiseTest {
     }
 
     private static void walks() {
-        PebbleInShoe x = pair(3, 0, 4010);
+        PebbleInShoe x = Made.pair(3, 0, 4010);
         due("walk", x.walk(0, 0, 3), 27 + 26 + 25);
         due("SIZE", x.told(0, 2), 37);
         due("ROUND", x.told(0, 3), 10);
@@ -260,17 +252,17 @@ final class PromiseTest {
         x.shoe(0, 1, 9);
         x.walk(0, 0, 1);
         due("SOLES 20 at most", x.bench(0, 0), 20);
-        PebbleInShoe sand = pair(0, 0, 0);
+        PebbleInShoe sand = Made.pair(0, 0, 0);
         due("walk on SAND", sand.walk(0, 0, 20), 0);
         due("MILES on SAND", sand.bench(0, 1), 20);
         due("SOLES on SAND", sand.bench(0, 0), 2);
-        PebbleInShoe small = pair(0, 20, 300);
+        PebbleInShoe small = Made.pair(0, 20, 300);
         due("SIZE 0 at least", small.walk(0, 0, 5), 3 + 1);
         due("SIZE", small.told(0, 2), 0);
     }
 
     private static void pain() {
-        PebbleInShoe x = pair(0, 39, 9900);
+        PebbleInShoe x = Made.pair(0, 39, 9900);
         Tape.law(x, "feels 99; wears 0; bars 1;");
         int sum = 0;
         for (int i = 0; i < 9; i++) {
@@ -289,7 +281,7 @@ final class PromiseTest {
     }
 
     private static void hears() {
-        PebbleInShoe x = pair(3, 0, 4010);
+        PebbleInShoe x = Made.pair(3, 0, 4010);
         due("felt", x.hear(0, 0, 12, 0), 225 + 16 + 15);
         due("SIZE then", x.hear(0, 0, 12, 1), 28);
         due("GUILTY", x.hear(0, 0, 12, 2), 1);
@@ -318,7 +310,7 @@ final class PromiseTest {
     }
 
     private static void barsBehind() {
-        PebbleInShoe x = pair(0, 0, 1000);
+        PebbleInShoe x = Made.pair(0, 0, 1000);
         // 10 + 9 is felt in two MILES, SIZE is 8 then
         Tape.law(x, "feels size; wears 1; bars 11 + size;");
         due("bars behind two", x.hear(0, 0, 2, 2), 1);
@@ -333,7 +325,7 @@ final class PromiseTest {
     }
 
     private static void fewestAndSand() {
-        PebbleInShoe x = pair(3, 0, 4010);
+        PebbleInShoe x = Made.pair(3, 0, 4010);
         due("fewest", x.fewest(0, 0), 2);
         due("sand", x.sand(0, 0), 40);
         x.put(0, 0, 60);
@@ -359,7 +351,7 @@ final class PromiseTest {
     }
 
     private static void unlikes() {
-        PebbleInShoe x = pair(0, 0, 4010);
+        PebbleInShoe x = Made.pair(0, 0, 4010);
         x.judge(15);
         x.judge(0);
         // 30, .. by the first; 15, 14, 13 by the second
@@ -406,7 +398,7 @@ final class PromiseTest {
     }
 
     private static void thickSoles() {
-        PebbleInShoe x = pair(0, 0, 4010);
+        PebbleInShoe x = Made.pair(0, 0, 4010);
         // by SOLES v: 30 - v + 29 - v is below 30 from 15 on
         due("thick", x.thick(0, 0, 2), 15);
         due("thick, n 0", x.thick(0, 0, 0), 0);
@@ -487,7 +479,7 @@ final class PromiseTest {
     }
 
     private static void reversedOnes() {
-        PebbleInShoe x = pair(0, 0, 4010);
+        PebbleInShoe x = Made.pair(0, 0, 4010);
         x.pebble(0, 3500);
         x.sheet(0, 0, 0);
         due("no CASES", x.reversed(0, 0), -1);
@@ -514,7 +506,7 @@ final class PromiseTest {
     }
 
     private static void refusedSheets() {
-        PebbleInShoe x = pair(0, 0, 4010);
+        PebbleInShoe x = Made.pair(0, 0, 4010);
         refusedDue(x, "SHEET 4", 4, -2);
         refusedDue(x, "SHEET -1", -1, -2);
         refusedDue(x, "missing", 0, -11);
@@ -550,7 +542,7 @@ final class PromiseTest {
     }
 
     private static void whatIfs() {
-        PebbleInShoe x = pair(4, 5, 4010);
+        PebbleInShoe x = Made.pair(4, 5, 4010);
         x.judge(2);
         Tape.row(x, 0, 0, 0, 1, 0);
         // a MILE: 26 as a PEBBLE, 31 as a FLINT, 26 as a SHELL, 62 as a SHARD, 13 as a PEARL, 25 as a GRIT
@@ -606,7 +598,7 @@ final class PromiseTest {
     }
 
     private static void films() {
-        PebbleInShoe x = pair(0, 0, 4010);
+        PebbleInShoe x = Made.pair(0, 0, 4010);
         x.pebble(0, 3101);
         x.pebble(0, 2000);
         Tape.row(x, 0, 1, 300, 300, 300, 300, 300, 300, 300, 300, 300, 300);
@@ -634,7 +626,7 @@ final class PromiseTest {
     }
 
     private static void lots() {
-        PebbleInShoe x = pair(3, 0, 4010);
+        PebbleInShoe x = Made.pair(3, 0, 4010);
         // LOTS of SEED 0: 48271, 182605794; modulo 4: 3, 2
         due("SIZE behind a LOT", x.drawn(0, 0, 0, 301, 1), 40 - 1 - 3);
         due("SIZE behind two", x.drawn(0, 0, 0, 302, 1), 40 - 2 - 5);
@@ -688,7 +680,7 @@ final class PromiseTest {
     }
 
     private static void images() {
-        PebbleInShoe x = pair(3, 17, 4010);
+        PebbleInShoe x = Made.pair(3, 17, 4010);
         x.walk(0, 0, 2);
         due("image", x.image(), 1);
         Tape.law(x, "feels 1; wears 1; bars 1;");
@@ -731,7 +723,7 @@ final class PromiseTest {
     }
 
     private static void sheets() {
-        PebbleInShoe x = pair(0, 0, 4010);
+        PebbleInShoe x = Made.pair(0, 0, 4010);
         due("SHEET 4", x.sheet(4, 0, -1), -2);
         due("SHEET -1", x.sheet(-1, 0, 1), -2);
         due("sort 3", x.sheet(0, 3, -1), -2);
@@ -857,7 +849,7 @@ final class PromiseTest {
     }
 
     private static void takenOnes() {
-        PebbleInShoe x = pair(0, 0, 4010);
+        PebbleInShoe x = Made.pair(0, 0, 4010);
         for (int kind = 1; kind <= 5; kind++) {
             x.pebble(10 * kind, 4010);
         }
