@@ -11,6 +11,7 @@ final class FindingEdgesTest {
 
     static void run() {
         fewest();
+        fewestAsItWears();
         sand();
         unlike();
         unlikeRefused();
@@ -26,6 +27,9 @@ final class FindingEdgesTest {
         counselOfFew();
         counselByTurns();
         counselRefused();
+        ofFewerThanBefore();
+        ofTheLastOnes();
+        ofOneOnAnother();
     }
 
     private static void due(String what, long got, long want) {
@@ -53,6 +57,21 @@ final class FindingEdgesTest {
             due("15: no such JUDGE " + v, x.fewest(v, 0), -5);
             due("15: no such PEBBLE " + v, x.fewest(0, v), -5);
         }
+    }
+
+    private static void fewestAsItWears() {
+        // 10, 9, 8, 7 are FELT
+        PebbleInShoe x = Made.pair(0, 50, 1000, "feels size;wears 1;bars 27;");
+        due("15: 27 in three", x.fewest(0, 0), 3);
+        Tape.law(x, "feels size;wears 1;bars 28;");
+        due("15: 28 in four", x.fewest(0, 0), 4);
+        Tape.law(x, "feels 0;wears 1;bars 1-(size=6);");
+        due("15: bars told behind", x.fewest(0, 0), 4);
+        x.judge(0);
+        Tape.law(x, "feels size;wears 1;bars 28+judge;");
+        due("17: 28 and 29 are alike in four", x.unlike(0, 1, 0), -1);
+        Tape.law(x, "feels size;wears 1;bars 28-judge;");
+        due("17: 28 and 27 are unlike in three", x.unlike(0, 1, 0), 3);
     }
 
     private static void sand() {
@@ -336,5 +355,93 @@ final class FindingEdgesTest {
         for (int v : new int[] {-1, 2, 10, LEAST, GREATEST}) {
             due("21: what " + v, x.counsel(0, 1, v), -7);
         }
+    }
+
+    /** PEBBLES that came since THE IMAGE are none: what was found with them is of no matter. */
+    private static void ofFewerThanBefore() {
+        PebbleInShoe x = Made.judges(0);
+        Tape.law(x, "feels 9;wears 0;bars 1;");
+        for (int p = 0; p < 6; p++) {
+            x.image();
+            x.pebble(50, 9900);
+            x.pebble(50, 9900);
+            x.order(0, 10, 1);
+            x.counsel(0, 10, 0);
+            x.hear(0, p, 1, 0);
+            due("20: PEBBLES behind back()", x.back(), p);
+            int digits = 0;
+            for (int i = 1; i <= p; i++) {
+                digits = 10 * digits + i;
+            }
+            due("20: the order of " + p, x.order(0, 10, 0), p == 0 ? -1 : digits);
+            due("20: FELT by " + p, x.order(0, 10, 1), 90 * p);
+            due("20: GUILTY of " + p, x.order(0, 10, 11), p);
+            due("21: GUILTY of " + p, x.counsel(0, 10, 0), p);
+            due("21: chosen first of " + p, x.counsel(0, 10, 1), p == 0 ? -1 : 0);
+            due("18: GUILTY of " + p, x.hardest(10, 1), p);
+            due("28: GUILTY of " + p, x.film(0, 0, 10), p);
+            x.pebble(50, 9900);
+        }
+    }
+
+    /** The fourth JUDGE and the sixth PEBBLE are thought of as the others are. */
+    private static void ofTheLastOnes() {
+        PebbleInShoe x = Made.judges(0, 0, 0, 6);
+        Made.rounds(x, 0, 0, 0, 0, 0);
+        x.pebble(57, 6010);
+        x.shoe(3, 1, 8);
+        // by SOLES 6: 50 - 42 / 4, 49 - 42 / 4; by SOLES 7: 48 - 49 / 4
+        due("14: FELT by the last on the last", x.hear(3, 5, 3, 0), 40 + 39 + 36);
+        due("14: SOLES of the last", x.hear(3, 5, 3, 3), 7);
+        due("14: SIZE of the last", x.hear(3, 5, 3, 1), 57);
+        due("15: by the last on the last", x.fewest(3, 5), 1);
+        due("16: a GRIT of 60", x.sand(3, 5), 56);
+        due("29: by LOTS", x.drawn(0, 3, 5, 3, 0), 40 + 39 + 36);
+        x.walk(3, 5, 2);
+        x.image();
+        x.walk(3, 5, 2);
+        x.put(5, 1, 99);
+        x.back();
+        due("32: MILES of the last", x.bench(3, 1), 10);
+        due("32: PAIN of the last", x.bench(3, 2), 79);
+        due("32: SIZE of the last", x.told(5, 2), 58);
+        due("32: ROUND of the last", x.told(5, 3), 10);
+    }
+
+    /** The numbers of a JUDGE and of a PEBBLE are unlike: neither is taken for the other. */
+    private static void ofOneOnAnother() {
+        PebbleInShoe x = Made.judges(4, 5);
+        x.pebble(32, 8050);
+        x.pebble(0, 6020);
+        x.pebble(13, 9010);
+        Tape.law(x, "feels size-round+judge;wears more;bars round+judge+soles;");
+        // JUDGE 1 on the SHARD: 31 - 5 + 2, 30 - 5 + 2, 29 - 5 + 2; bars are 56. JUDGE 0: 2 * 28; bars are 54
+        due("14: FELT by 1 on 0", x.hear(1, 0, 2, 0), 28 + 27);
+        due("14: SIZE of 0 by 1", x.hear(1, 0, 2, 1), 78);
+        due("14: by 1 on 0", x.hear(1, 0, 2, 2), 0);
+        due("14: by 1 on 0, three MILES", x.hear(1, 0, 3, 2), 1);
+        due("14: by 0 on 0", x.hear(0, 0, 1, 2), 1);
+        due("14: FELT by 0 on 1", x.hear(0, 1, 2, 0), 36 + 36);
+        due("14: FELT by 1 on 2", x.hear(1, 2, 2, 0), 79 + 76);
+        due("15: by 1 on 0", x.fewest(1, 0), 3);
+        due("15: by 0 on 0", x.fewest(0, 0), 1);
+        due("16: 2 by 1", x.sand(1, 2), 30);
+        due("17: on 0", x.unlike(0, 1, 0), 1);
+        due("18: how many in two MILES", x.hardest(2, 1), 3);
+        due("18: by whom", x.hardest(2, 0), 0);
+        // by SOLES v of 5 or more, 65 - 2 v is FELT, bars are 51 + v
+        due("19: by 1 on 0", x.thick(1, 0, 2), 5);
+        // LOTS are 1, 4: 31 - 3, then 29 - 3 are FELT
+        due("29: FELT by 1 on 0", x.drawn(0, 1, 0, 902, 0), 28 + 26);
+        due("29: SIZE of 0 by 1", x.drawn(0, 1, 0, 902, 1), 73);
+        due("29: by 1 on 0", x.drawn(0, 1, 0, 902, 2), 0);
+        due("29: by 1 on 0, three MILES", x.drawn(0, 1, 0, 903, 2), 1);
+        due("30: by 1 on 0", x.odds(0, 1, 1, 0, 902, 0), 0);
+        due("30: by 1 on 0, three MILES", x.odds(0, 1, 1, 0, 903, 0), 1);
+        due("13: FELT by 1 on 0", x.walk(1, 0, 2), 55);
+        due("13: PAIN of 1", x.bench(1, 2), 55);
+        due("13: PAIN of 0", x.bench(0, 2), 0);
+        due("13: SIZE of 0", x.told(0, 2), 78);
+        due("13: SIZE of 1", x.told(1, 2), 60);
     }
 }

@@ -11,6 +11,7 @@ final class TextEdgesTest {
         digits();
         signs();
         blanks();
+        bytesThatBeginNone();
         words();
         numbers();
         threeParts();
@@ -19,6 +20,7 @@ final class TextEdgesTest {
         whatCanStandThere();
         fiveOpen();
         tillTheyEnd();
+        nothingIsLeftOfAFault();
         oneOrZero();
         whatIsNotZeroIsTrue();
         orders();
@@ -136,6 +138,20 @@ final class TextEdgesTest {
         standsAs("1or 2");
         faultOf("1or2size", 4);
         standsAs("1or 2and 3");
+    }
+
+    private static void bytesThatBeginNone() {
+        String begin = "abcdefghijklmnopqrstuvwxyz0123456789();+-*<= \n";
+        for (int b = 0; b < 256; b++) {
+            char c = (char) b;
+            if (begin.indexOf(c) < 0) {
+                faultOf("" + c, 0);
+                faultOf("1" + c, 1);
+                faultOf("1 +" + c + "2", 3);
+                fault(c + "feels 1" + BEHIND, 0);
+                fault("feels 1" + BEHIND + c, 7 + BEHIND.length());
+            }
+        }
     }
 
     private static void words() {
@@ -271,6 +287,12 @@ final class TextEdgesTest {
         standsAs("1 or not 1");
         standsAs("1 and not not 1");
         standsAs("(not 1)");
+        // nothing behind what wants more
+        for (String e : new String[] {"1 +", "1 -", "1 *", "1 <", "1 =", "1 or", "1 and", "not", "-", "1 or not"}) {
+            faultOf(e, e.length());
+            faultOf("(" + e + ")", 1 + e.length());
+        }
+        faultOf("(", 1);
         // a SIGN that stands between, ahead of a ONE
         faultOf("+1", 0);
         faultOf("*1", 0);
@@ -357,6 +379,16 @@ final class TextEdgesTest {
         faultOf("(((((1--1)))))", 7);
         // each part begins with none open
         stands("feels -----1;wears (((((1)))));bars not not not not not 1;");
+    }
+
+    private static void nothingIsLeftOfAFault() {
+        PebbleInShoe x = Made.pair(0, 0, 9900);
+        for (String e : new String[] {"-1", "not 1", "1+1", "1 or 1"}) {
+            Tape.text(x, "feels 5;wears 5;bars " + e + ";x");
+            Tape.text(x, "feels 5;wears 5;bars " + e);
+            Tape.law(x, "feels 5;wears 5;bars 7;");
+            Check.due("bars behind the FAULT of " + e, x.asks(2, 0, 0), 7);
+        }
     }
 
     // ---- values
