@@ -26,6 +26,7 @@ final class CircuitEdgesTest {
         film();
         filmOverRows();
         filmRefused();
+        ofOneOnAnother();
     }
 
     private static void due(String what, long got, long want) {
@@ -367,5 +368,32 @@ final class CircuitEdgesTest {
         }
         due("28: the SHEET stays", Made.sort(x, 0), 1);
         due("28: the SHEET stays", Made.size(x, 0), 2);
+    }
+
+    /** The numbers of a JUDGE and of a PEBBLE are unlike: neither is taken for the other. */
+    private static void ofOneOnAnother() {
+        PebbleInShoe x = Made.judges(4, 5);
+        x.pebble(32, 8050);
+        x.pebble(0, 6020);
+        x.pebble(13, 9010);
+        Tape.law(x, "feels size-round+judge;wears more;bars round+judge+soles;");
+        // JUDGE 1: 28 + 27, bars 56; 36 + 36, bars 26; 79 + 76, bars 16. JUDGE 0 begins with 56 + 54, bars 54
+        due("28: by 1", x.film(0, 1, 2), 2);
+        due("22: by 1", x.reversed(0, 1), -1);
+        due("22: by 0", x.reversed(0, 0), 0);
+        due("26: whose", x.whose(0), 0b10);
+        // of 0 as a PEBBLE 26 + 24, FLINT 28 + 26, SHELL 26 + 22, PEARL 13 + 13, GRIT 29 + 27
+        due("23: KINDS of 0 by 1", x.kinds(0, 1, 0, 0), 0b011111);
+        // MORE m: 26 + m, and less what wears, m by 2, once more: 52 + 2 m - m / 2
+        due("23: MORE of 0 by 1", x.kinds(0, 1, 0, 1), 0b111);
+        // SIZE s: 2 s - 105 is below 56
+        due("25: SIZES of 0 by 1", x.sizes(0, 1, 0, 0), 81);
+        due("25: the least", x.sizes(0, 1, 0, 1), 0);
+        // ROUND r: 155 - 2 r is below 6 + r
+        due("25: ROUNDS of 0 by 1", x.sizes(0, 1, 0, 10), 50);
+        due("25: the least", x.sizes(0, 1, 0, 11), 50);
+        // SOLES v of 5 or more: 65 - 2 v is below 51 + v
+        due("24: SOLES of 1", x.soled(0, 1), ((1 << 21) - 1) ^ 0b11111);
+        due("27: TEXTS by 1", x.laws(0, 1), 0b10);
     }
 }

@@ -17,6 +17,7 @@ final class FindingEdgesTest {
         unlikeRefused();
         hardest();
         hardestAsItIsNow();
+        hardestOfAllPebbles();
         hardestOfNone();
         thick();
         thickRefused();
@@ -167,6 +168,15 @@ final class FindingEdgesTest {
         Tape.law(x, "feels 2-judge;wears 20;bars 2;");
         due("18: the first is hardest", x.hardest(1, 0), 0);
         due("18: each CASE", x.hardest(1, 1), 3);
+    }
+
+    private static void hardestOfAllPebbles() {
+        PebbleInShoe x = Made.judges(20, 0);
+        x.pebble(0, 3000);
+        x.pebble(0, 0);
+        x.pebble(0, 3000);
+        due("18: 1, by the first and the last PEBBLE", x.hardest(1, 0), 1);
+        due("18: not by SAND", x.hardest(1, 1), 2);
     }
 
     private static void hardestOfNone() {

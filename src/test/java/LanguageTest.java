@@ -47,6 +47,9 @@ final class LanguageTest {
         }
         methodsAreShort(code);
         callsAreFewDeep(code);
+        libraryIsListed(code);
+        madeByConstructorsAlone(code);
+        fieldsAreOfListedTypes();
     }
 
     private static void face() throws Exception {
@@ -93,6 +96,48 @@ final class LanguageTest {
                 fields += Modifier.isStatic(f.getModifiers()) ? 0 : 1;
             }
             Check.holds("some twenty fields", fields <= 20);
+        }
+    }
+
+    /** Of the library nothing but these; of Texts, what a call on one could be named. */
+    private static void libraryIsListed(String code) {
+        Set<String> listed = Set.of("System.arraycopy", "Arrays.fill", "Integer.bitCount", "Math.max", "Math.min");
+        Matcher calls = Pattern.compile("\\b(System|Arrays|Integer|Long|Math|String|Character|Objects)\\s*\\.\\s*\\w+")
+            .matcher(code);
+        while (calls.find()) {
+            Check.holds("listed: " + calls.group(), listed.contains(calls.group()));
+        }
+        Check.holds("no text is joined by +", !code.contains("\" +") && !code.contains("+ \""));
+        Check.holds("no Exact", !code.contains("Exact("));
+        Check.holds("no float, no double", !Pattern.compile("\\b(float|double)\\b").matcher(code).find());
+        Check.holds("no loop without a bound", !code.contains("while (true)") && !code.contains("for (;;"));
+    }
+
+    /** What a run makes is counted: here it is as much as its objects' fields, whatever is called. */
+    private static void madeByConstructorsAlone(String code) {
+        for (String line : code.split("\n")) {
+            if (Pattern.compile("\\bnew\\b").matcher(line).find()) {
+                Check.holds("a field: " + line.trim(), line.matches(" +(private )?final \\S+ \\w+ = new .*;"));
+            }
+        }
+        Check.holds("no row is cloned", !code.contains(".clone(") && !code.contains("copyOf"));
+    }
+
+    private static void fieldsAreOfListedTypes() {
+        List<Class<?>> all = new ArrayList<>(List.of(PebbleInShoe.class.getDeclaredClasses()));
+        all.add(PebbleInShoe.class);
+        Set<Class<?>> listed = new HashSet<>(all);
+        listed.addAll(List.of(int.class, long.class, boolean.class, char.class, String.class));
+        for (Class<?> c : all) {
+            for (Field f : c.getDeclaredFields()) {
+                boolean isStatic = Modifier.isStatic(f.getModifiers());
+                Class<?> type = f.getType();
+                boolean isRow = type == int[].class || type == int[][].class;
+                Check.holds(f + " is of a listed type", listed.contains(type) || isRow && !isStatic);
+                Check.holds(f + " is final, if static", !isStatic || Modifier.isFinal(f.getModifiers()));
+                Check.holds(f + " is a constant, if static", !isStatic || type.isPrimitive() || type == String.class);
+            }
+            Check.holds(c + " has no class inside", c == PebbleInShoe.class || c.getDeclaredClasses().length == 0);
         }
     }
 

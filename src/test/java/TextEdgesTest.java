@@ -159,6 +159,8 @@ final class TextEdgesTest {
             standsAs(name);
             faultOf(name + "s", 0);
             faultOf("x" + name, 0);
+            faultOf("x" + name.substring(1), 0);
+            faultOf(name.substring(0, name.length() - 1) + "x", 0);
             faultOf(name.substring(1), 0);
             faultOf(name.substring(0, name.length() - 1), 0);
             faultOf(name + name, 0);
@@ -174,6 +176,13 @@ final class TextEdgesTest {
             faultOf("1 " + key, 2);
             faultOf("1 " + key + " 1", 2);
         }
+        fault("xeels 1" + BEHIND, 0);
+        fault("feelx 1" + BEHIND, 0);
+        fault("feels 1;xears 1;bars 1;", 8);
+        fault("feels 1;wears 1;xars 1;", 16);
+        faultOf("1 xr 1", 2);
+        faultOf("1 xnd 1", 2);
+        faultOf("xot 1", 0);
         // as long as can be
         fault("feelssize" + BEHIND, 0);
         fault("feels1" + BEHIND + "x", 6 + BEHIND.length());
@@ -388,6 +397,19 @@ final class TextEdgesTest {
             Tape.text(x, "feels 5;wears 5;bars " + e);
             Tape.law(x, "feels 5;wears 5;bars 7;");
             Check.due("bars behind the FAULT of " + e, x.asks(2, 0, 0), 7);
+        }
+        for (String old : new String[] {"7", "a", "s", " ", ";"}) {
+            PebbleInShoe y = new PebbleInShoe();
+            Tape.text(y, old.repeat(160));
+            Check.due("behind a TAPE of " + old, Tape.text(y, "feels 1;wears 1;bars 1"), -122);
+            Tape.text(y, old.repeat(160));
+            Check.due("behind a TAPE of " + old, Tape.text(y, "feels 1;wears 1;bars size"), -125);
+            Tape.text(y, old.repeat(160));
+            Check.due("behind a TAPE of " + old, Tape.text(y, "feels 1;wears 1;bar"), -116);
+            Tape.text(y, old.repeat(160));
+            Check.due("behind a TAPE of " + old, y.text(), -100);
+            Tape.text(y, old.repeat(160));
+            Check.due("behind a TAPE of " + old, Tape.text(y, "feels 1;wears 1;bars 1;"), 1);
         }
     }
 
