@@ -29,6 +29,7 @@ final class FindingEdgesTest {
         counselByTurns();
         counselRefused();
         ofFewerThanBefore();
+        ofNoneBehindBack();
         ofTheLastOnes();
         ofOneOnAnother();
     }
@@ -392,6 +393,20 @@ final class FindingEdgesTest {
             due("28: GUILTY of " + p, x.film(0, 0, 10), p);
             x.pebble(50, 9900);
         }
+    }
+
+    /** Of those that came since THE IMAGE nothing was FELT: no choice is left of them. */
+    private static void ofNoneBehindBack() {
+        PebbleInShoe x = Made.judges(0);
+        x.image();
+        Made.rounds(x, 1, 2, 3);
+        Tape.law(x, "feels 0;wears 0;bars 1;");
+        due("20: the order of three", x.order(0, 10, 0), 123);
+        due("21: chosen first of three", x.counsel(0, 10, 1), 0);
+        x.back();
+        due("20: no PEBBLES behind back()", x.order(0, 10, 0), -1);
+        due("20: no PEBBLES behind back(), GUILTY", x.order(0, 10, 10), -1);
+        due("21: there are none behind back()", x.counsel(0, 10, 1), -1);
     }
 
     /** The fourth JUDGE and the sixth PEBBLE are thought of as the others are. */
