@@ -502,7 +502,6 @@ public final class PebbleInShoe {
         }
         int came = 0;
         for (int k = 0; k < n; k++) {
-            // a wrapped place is below 0, and so outside as well
             int place = at + 2 * k;
             if (!rows.holds(s, place, 2)) {
                 return OUTSIDE;

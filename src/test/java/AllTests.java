@@ -17,6 +17,7 @@ public final class AllTests {
         ExtremesTest.run();
         OracleTest.run();
         LanguageTest.run(args.length > 0 ? args[0] : "src/main/java/PebbleInShoe.java");
+        ReadmeTest.run(args.length > 1 ? args[1] : "README.md");
         System.out.println(Check.passed + " passed, " + Check.failed + " failed");
         if (Check.failed != 0) {
             System.exit(1);
